@@ -1873,7 +1873,7 @@ public final class SwitchYard {
         /** A MOVE; whether there is ROOM was looked at before. */
         void shift(int from, int to, int n) {
             boolean reaches = to >= 0 && to < STACKS && to != from;
-            if (!reaches || n < 0 || n > height(from) || n > WAGONS - heights[to]) {
+            if (!reaches || n < 1 || n > height(from) || n > WAGONS - heights[to]) {
                 return;
             }
             heights[from] -= n;
@@ -1942,7 +1942,7 @@ public final class SwitchYard {
         private final Stacks goal = new Stacks();
         private final Stacks work = new Stacks();
         private final int[] rooms = new int[Stacks.STACKS];
-        private final Potentials potentials = new Potentials(rooms);
+        private final Potentials potentials = new Potentials();
         private final int[] moves = new int[MOST_MOVES];
         /** Which row of STACKS START is behind the first k MOVES, by its rank. */
         private final int[] ranks = new int[MOST_MOVES + 1];
@@ -2010,7 +2010,7 @@ public final class SwitchYard {
 
         int makeLeast() {
             drop();
-            potentials.spreadFrom(goal);
+            potentials.spreadFrom(goal, rooms);
             int rank = potentials.rankOf(start);
             int least = potentials.of(rank);
             if (least == NONE || least > MOST_MOVES) {
@@ -2018,8 +2018,9 @@ public final class SwitchYard {
             }
             ranks[0] = rank;
             for (int k = 0; k < least; k++) {
-                moves[k] = potentials.moveDown(ranks[k]);
-                ranks[k + 1] = potentials.rankBehind(ranks[k], moves[k]);
+                int entry = potentials.entryDown(ranks[k]);
+                moves[k] = potentials.moveOf(entry);
+                ranks[k + 1] = potentials.rankAfter(ranks[k], entry);
             }
             length = least;
             way = BY_LEAST;
@@ -2115,7 +2116,7 @@ public final class SwitchYard {
                 return false;
             }
             return way == BY_RULE || potentials.of(potentials.rankOf(goal)) == 0
-                    && potentials.of(potentials.rankOf(start)) == length && potentials.prove();
+                    && potentials.of(potentials.rankOf(start)) == length && potentials.prove(rooms);
         }
 
         private boolean leadsToGoal() {
@@ -2134,34 +2135,34 @@ public final class SwitchYard {
     }
 
     /**
-     * POTENTIALS of all rows of STACKS of the WAGONS of a GOAL. A row is told by its rank: the WAGONS are put one
-     * by one, in order, into a line with three walls between the STACKS; the k-th has k + 4 places to go to, and
-     * the numbers of these places are the digits of the rank.
+     * POTENTIALS of all rows of STACKS of the WAGONS of a GOAL. A row is told by its rank, which is made of its
+     * order (how the WAGONS follow one another, the STACKS being read from below, one behind the other) and its
+     * shape (where each STACK ends there). What a MOVE does is known by the shape alone: it leads to another shape,
+     * and two neighbouring blocks of the order change places. So the MOVES of all rows are listed by shapes.
      */
     private static final class Potentials {
         static final int MOST_WAGONS = 5;
-        private static final int WALL = -1;
-        /** Each WAGON may be the lowest that goes to three STACKS. */
-        private static final int MOST_NEXT = 3 * MOST_WAGONS;
+        /** How many ways there are to choose the three borders of two neighbouring blocks. */
+        private static final int SWAPS = 20;
+        private static final int SHAPE_KEYS = 216;
 
-        private final int[] rooms;
-        private final Stacks row = new Stacks();
-        private final int[] digits = new int[MOST_WAGONS];
-        private final int[] line = new int[MOST_WAGONS + Stacks.STACKS - 1];
-        private final int[] wagonOf = new int[MOST_WAGONS];
         private final int[] numberOf = new int[Stacks.WAGONS];
-        private final int[] nextMoves = new int[MOST_NEXT];
-        private final int[] nextRanks = new int[MOST_NEXT];
-        private int nextLength = 0;
+        private final int[] sequence = new int[MOST_WAGONS];
+        private final int[] swapped = new int[MOST_WAGONS];
+        private final int[] digits = new int[MOST_WAGONS];
+        private final int[] shapeOfKey = new int[SHAPE_KEYS];
         private int wagons = 0;
-        private int rows = 0;
-        /** These two grow when they must: most objects never plan. */
+        private int orders = 0;
+        private int shapes = 0;
+        /** All rows from here on grow when they must: most objects never plan. */
+        private int[] ends = new int[0];
+        private int[] orderAfter = new int[0];
+        private int[] firstEntries = new int[0];
+        private int[] moves = new int[0];
+        private int[] nextShapes = new int[0];
+        private int[] swaps = new int[0];
         private int[] least = new int[0];
         private int[] queue = new int[0];
-
-        Potentials(int[] rooms) {
-            this.rooms = rooms;
-        }
 
         int of(int rank) {
             return isRank(rank) ? least[rank] : NONE;
@@ -2174,61 +2175,61 @@ public final class SwitchYard {
         }
 
         private boolean isRank(int rank) {
-            return rank >= 0 && rank < rows && rank < least.length;
+            return rank >= 0 && rank < orders * shapes;
         }
 
         /** NONE: other WAGONS stand there than those of the GOAL. */
         int rankOf(Stacks stacks) {
-            int seen = 0;
+            int read = 0;
+            int key = 0;
             for (int stack = 0; stack < Stacks.STACKS; stack++) {
                 for (int i = 0; i < stacks.height(stack); i++) {
-                    int number = numberIn(stacks.wagonAt(stack, i));
-                    if (number < 0 || number >= MOST_WAGONS) {
+                    int wagon = stacks.wagonAt(stack, i);
+                    if (wagon < 0 || wagon >= Stacks.WAGONS || numberOf[wagon] == NONE || read >= wagons) {
                         return NONE;
                     }
-                    digits[number] = stack + Integer.bitCount(seen & (1 << number) - 1);
-                    seen |= 1 << number;
+                    sequence[read] = numberOf[wagon];
+                    read++;
                 }
+                key = keyWith(key, stack, read);
             }
-            if (seen != (1 << wagons) - 1) {
-                return NONE;
+            return read == wagons ? orderOf(sequence) * shapes + shapeOfKey[key] : NONE;
+        }
+
+        /** The key of a shape is where its STACKS end, in one number; the last one ends where all do. */
+        private static int keyWith(int key, int stack, int end) {
+            return stack < Stacks.STACKS - 1 ? (MOST_WAGONS + 1) * key + end : key;
+        }
+
+        /** The digits of an order: behind how many lesser ones each WAGON stands. */
+        private int orderOf(int[] numbers) {
+            int seen = 0;
+            for (int i = 0; i < wagons; i++) {
+                digits[numbers[i]] = Integer.bitCount(seen & (1 << numbers[i]) - 1);
+                seen |= 1 << numbers[i];
             }
-            int rank = 0;
+            int order = 0;
             for (int k = wagons - 1; k >= 0; k--) {
-                rank = rank * (k + Stacks.STACKS) + digits[k];
+                order = order * (k + 1) + digits[k];
             }
-            return rank;
+            return order;
         }
 
-        private int numberIn(int wagon) {
-            return wagon < 0 || wagon >= Stacks.WAGONS ? NONE : numberOf[wagon];
-        }
-
-        private void layRow(int rank) {
-            int length = Stacks.STACKS - 1;
-            Arrays.fill(line, 0, length, WALL);
-            int rest = rank;
+        private void layOrder(int order) {
+            int rest = order;
             for (int k = 0; k < wagons; k++) {
-                int digit = rest % (k + Stacks.STACKS);
-                rest /= k + Stacks.STACKS;
-                System.arraycopy(line, digit, line, digit + 1, length - digit);
-                line[digit] = k;
-                length++;
-            }
-            row.empty();
-            int stack = 0;
-            for (int i = 0; i < length; i++) {
-                if (line[i] == WALL) {
-                    stack++;
-                } else {
-                    row.put(stack, wagonOf[line[i]]);
-                }
+                int digit = rest % (k + 1);
+                rest /= k + 1;
+                System.arraycopy(sequence, digit, sequence, digit + 1, k - digit);
+                sequence[digit] = k;
             }
         }
 
         /** A MOVE may be taken back by another one, so ways to the GOAL are found by going from it. */
-        void spreadFrom(Stacks goal) {
+        void spreadFrom(Stacks goal, int[] rooms) {
             takeWagons(goal.members());
+            listEntries(rooms);
+            Arrays.fill(least, NONE);
             int first = rankOf(goal);
             if (!isRank(first)) {
                 return;
@@ -2236,13 +2237,14 @@ public final class SwitchYard {
             least[first] = 0;
             queue[0] = first;
             int tail = 1;
-            for (int head = 0; head < tail && head < rows; head++) {
-                listNext(queue[head]);
-                for (int i = 0; i < nextLength; i++) {
-                    int rank = nextRanks[i];
-                    if (isRank(rank) && least[rank] == NONE && tail < rows) {
-                        least[rank] = least[queue[head]] + 1;
-                        queue[tail] = rank;
+            for (int head = 0; head < tail && head < orders * shapes; head++) {
+                int rank = queue[head];
+                int shape = rank % shapes;
+                for (int entry = firstEntries[shape]; entry < firstEntries[shape + 1]; entry++) {
+                    int next = rankAfter(rank, entry);
+                    if (isRank(next) && least[next] == NONE && tail < queue.length) {
+                        least[next] = least[rank] + 1;
+                        queue[tail] = next;
                         tail++;
                     }
                 }
@@ -2250,63 +2252,152 @@ public final class SwitchYard {
         }
 
         private void takeWagons(int members) {
-            wagons = 0;
-            rows = 1;
+            int number = 0;
             for (int wagon = 0; wagon < Stacks.WAGONS; wagon++) {
-                numberOf[wagon] = NONE;
-                if ((members >> wagon & 1) == 1 && wagons < MOST_WAGONS) {
-                    numberOf[wagon] = wagons;
-                    wagonOf[wagons] = wagon;
-                    rows *= wagons + Stacks.STACKS;
-                    wagons++;
-                }
+                boolean is = (members >> wagon & 1) == 1 && number < MOST_WAGONS;
+                numberOf[wagon] = is ? number : NONE;
+                number += is ? 1 : 0;
             }
-            if (least.length < rows) {
-                least = new int[rows];
-                queue = new int[rows];
+            if (shapes > 0 && number == wagons) {
+                return;
             }
-            Arrays.fill(least, NONE);
+            wagons = number;
+            shapes = (wagons + 1) * (wagons + 2) * (wagons + 3) / 6;
+            orders = 1;
+            for (int k = 2; k <= wagons; k++) {
+                orders *= k;
+            }
+            growRows();
+            listShapes();
+            listOrders();
         }
 
-        /** All MOVES from a row and where they lead, the least from, then to, then n first. */
-        private void listNext(int rank) {
-            layRow(rank);
-            nextLength = 0;
-            for (int from = 0; from < Stacks.STACKS; from++) {
-                for (int to = 0; to < Stacks.STACKS; to++) {
-                    int most = from == to ? 0 : Math.min(row.height(from), rooms[to] - row.height(to));
-                    for (int n = 1; n <= most && nextLength < MOST_NEXT; n++) {
-                        row.shift(from, to, n);
-                        nextMoves[nextLength] = 64 * from + 16 * to + n;
-                        nextRanks[nextLength] = rankOf(row);
-                        nextLength++;
-                        row.shift(to, from, n);
+        private void growRows() {
+            if (least.length >= orders * shapes) {
+                return;
+            }
+            least = new int[orders * shapes];
+            queue = new int[orders * shapes];
+            orderAfter = new int[orders * SWAPS];
+            ends = new int[shapes * Stacks.STACKS];
+            firstEntries = new int[shapes + 1];
+            // Each WAGON may be the lowest of those that go, to three STACKS.
+            int most = shapes * wagons * (Stacks.STACKS - 1);
+            moves = new int[most];
+            nextShapes = new int[most];
+            swaps = new int[most];
+        }
+
+        private void listShapes() {
+            int shape = 0;
+            for (int a = 0; a <= wagons; a++) {
+                for (int b = a; b <= wagons; b++) {
+                    for (int c = b; c <= wagons; c++) {
+                        ends[Stacks.STACKS * shape] = a;
+                        ends[Stacks.STACKS * shape + 1] = b;
+                        ends[Stacks.STACKS * shape + 2] = c;
+                        ends[Stacks.STACKS * shape + 3] = wagons;
+                        shapeOfKey[keyWith(keyWith(keyWith(0, 0, a), 1, b), 2, c)] = shape;
+                        shape++;
                     }
                 }
             }
         }
 
+        private void listOrders() {
+            for (int order = 0; order < orders; order++) {
+                layOrder(order);
+                for (int k = 2; k <= wagons; k++) {
+                    for (int j = 1; j < k; j++) {
+                        for (int i = 0; i < j; i++) {
+                            System.arraycopy(sequence, 0, swapped, 0, wagons);
+                            System.arraycopy(sequence, j, swapped, i, k - j);
+                            System.arraycopy(sequence, i, swapped, i + k - j, j - i);
+                            orderAfter[SWAPS * order + swapOf(i, j, k)] = orderOf(swapped);
+                        }
+                    }
+                }
+            }
+        }
+
+        /** The blocks i .. j - 1 and j .. k - 1 change places; NONE: one of them is empty. */
+        private static int swapOf(int i, int j, int k) {
+            return i < j && j < k ? k * (k - 1) * (k - 2) / 6 + j * (j - 1) / 2 + i : NONE;
+        }
+
+        /** All MOVES of each shape, the least from, then to, then n first. */
+        private void listEntries(int[] rooms) {
+            int entry = 0;
+            for (int shape = 0; shape < shapes; shape++) {
+                firstEntries[shape] = entry;
+                for (int from = 0; from < Stacks.STACKS; from++) {
+                    for (int to = 0; to < Stacks.STACKS; to++) {
+                        int most = from == to ? 0 : Math.min(heightIn(shape, from), rooms[to] - heightIn(shape, to));
+                        for (int n = 1; n <= most; n++) {
+                            moves[entry] = 64 * from + 16 * to + n;
+                            nextShapes[entry] = shapeAfter(shape, from, to, n);
+                            swaps[entry] = swapBy(shape, from, to, n);
+                            entry++;
+                        }
+                    }
+                }
+            }
+            firstEntries[shapes] = entry;
+        }
+
+        private int endIn(int shape, int stack) {
+            return stack < 0 ? 0 : ends[Stacks.STACKS * shape + stack];
+        }
+
+        private int heightIn(int shape, int stack) {
+            return endIn(shape, stack) - endIn(shape, stack - 1);
+        }
+
+        private int shapeAfter(int shape, int from, int to, int n) {
+            int key = 0;
+            for (int stack = 0; stack < Stacks.STACKS; stack++) {
+                int less = from <= stack && stack < to ? n : 0;
+                int more = to <= stack && stack < from ? n : 0;
+                key = keyWith(key, stack, endIn(shape, stack) - less + more);
+            }
+            return shapeOfKey[key];
+        }
+
+        private int swapBy(int shape, int from, int to, int n) {
+            int end = endIn(shape, from);
+            return from < to ? swapOf(end - n, end, endIn(shape, to)) : swapOf(endIn(shape, to), end - n, end);
+        }
+
+        int moveOf(int entry) {
+            return entry < 0 || entry >= moves.length ? NONE : moves[entry];
+        }
+
+        /** The rank of the row to which a MOVE leads. */
+        int rankAfter(int rank, int entry) {
+            if (!isRank(rank) || entry < 0 || entry >= moves.length) {
+                return NONE;
+            }
+            int order = rank / shapes;
+            int swap = swaps[entry];
+            return (swap == NONE ? order : orderAfter[SWAPS * order + swap]) * shapes + nextShapes[entry];
+        }
+
         /** The first MOVE from a row that leads to a POTENTIAL that is 1 less. */
-        int moveDown(int rank) {
-            listNext(rank);
-            for (int i = 0; i < nextLength; i++) {
-                if (of(nextRanks[i]) == of(rank) - 1) {
-                    return nextMoves[i];
+        int entryDown(int rank) {
+            int shape = isRank(rank) ? rank % shapes : 0;
+            for (int entry = firstEntries[shape]; entry < firstEntries[shape + 1]; entry++) {
+                if (of(rankAfter(rank, entry)) == of(rank) - 1) {
+                    return entry;
                 }
             }
             return NONE;
         }
 
-        int rankBehind(int rank, int move) {
-            layRow(rank);
-            row.shift(move >> 6, move >> 4 & 3, move & 15);
-            return rankOf(row);
-        }
-
         /** Whether no MOVE leads from a POTENTIAL to none, or to one lower by more than 1. */
-        boolean prove() {
-            for (int rank = 0; rank < rows; rank++) {
-                if (of(rank) != NONE && !isProved(rank)) {
+        boolean prove(int[] rooms) {
+            listEntries(rooms);
+            for (int rank = 0; rank < orders * shapes; rank++) {
+                if (least[rank] != NONE && !isProved(rank)) {
                     return false;
                 }
             }
@@ -2314,10 +2405,10 @@ public final class SwitchYard {
         }
 
         private boolean isProved(int rank) {
-            listNext(rank);
-            for (int i = 0; i < nextLength; i++) {
-                int next = of(nextRanks[i]);
-                if (next == NONE || next < of(rank) - 1) {
+            int shape = rank % shapes;
+            for (int entry = firstEntries[shape]; entry < firstEntries[shape + 1]; entry++) {
+                int next = of(rankAfter(rank, entry));
+                if (next == NONE || next < least[rank] - 1) {
                     return false;
                 }
             }

@@ -28,6 +28,7 @@ final class ActsTest {
         kick();
         step();
         stepMeetsOthers();
+        stepWhenOneStops();
         test();
         leave();
         roll();
@@ -717,10 +718,34 @@ final class ActsTest {
         last.table(2, 3);
         due.is("kick(0, 0)", last.kick(0, 0), 1);
         due.is("kick(1, 0)", last.kick(1, 0), 3);
+        due.is("count(-3)", last.count(-3), 2);
+        due.found("couple(0, 1), D is 1", last, last.couple(0, 1), RUNS);
         due.is("step(1)", last.step(1), 1);
         stands(last, 0, 11);
         due.is("D of 0", last.thing(0, 9), 0);
         due.is("count(-4)", last.count(-4), 0);
+    }
+
+    private static void stepWhenOneStops() {
+        due.of("25 step, those behind one that stops");
+        SwitchYard yard = yard(9);
+        yard.wagon(0, 0, 0, 4, 20);
+        yard.wagon(0, 0, 3, 4, 20);
+        yard.wagon(3, 0, 4, 8, 40);
+        yard.table(1, 5);
+        yard.table(2, 1);
+        due.is("kick(0, 1)", yard.kick(0, 1), 5);
+        due.is("kick(1, 0)", yard.kick(1, 0), 5);
+        due.is("kick(2, 0)", yard.kick(2, 0), 1);
+        due.is("step(1)", yard.step(1), 1);
+        stands(yard, 0, 1);
+        stands(yard, 1, 31);
+        stands(yard, 2, 51);
+        due.is("D of 1", yard.thing(1, 9), 4);
+        due.is("step(1)", yard.step(1), 1);
+        stands(yard, 1, 41);
+        due.is("step(1), 2 RUNS no more", yard.step(1), 0);
+        due.is("count(-4)", yard.count(-4), 1);
     }
 
     private static void test() {

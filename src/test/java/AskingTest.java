@@ -1,3 +1,5 @@
+import java.util.function.IntSupplier;
+
 /** Promises 30 to 45: what is asked. */
 final class AskingTest {
     private static final int BAD = SwitchYard.BAD, FOUND = SwitchYard.FOUND, NONE = SwitchYard.NONE;
@@ -17,6 +19,7 @@ final class AskingTest {
         weighAndShare();
         consist();
         finding();
+        eachCallTellsItsOwn();
         count();
         trace();
         undo();
@@ -333,6 +336,35 @@ final class AskingTest {
         due.is("finding(3)", yard.finding(3), NONE);
     }
 
+    /** Each call that may be FOUND, where it is not, and no BODY begins in it. */
+    private static void eachCallTellsItsOwn() {
+        due.of("39, 41 each call tells its own");
+        SwitchYard yard = kinds();
+        yard.track(4);
+        yard.engine(false, 1, 1, 90);
+        yard.point(0, 0);
+        yard.route();
+        yard.hold(7, 9);
+        yard.jam(7, 1);
+        IntSupplier[] calls = {() -> yard.track(2), () -> yard.point(1, 0), () -> yard.link(1, 0, 0, 1),
+            () -> yard.exit(0, 0, true), () -> yard.wagon(0, 2, 0, 4, 20), () -> yard.engine(true, 2, 1, 20),
+            () -> yard.via(0, 1, 0, 2), () -> yard.load(0, 0, 2), () -> yard.piece(0, 1, 0, 5),
+            () -> yard.danger(0, 1), () -> yard.hold(0, 1), () -> yard.jam(0, 1), () -> yard.turn(1, 0),
+            () -> yard.lock(0), () -> yard.free(0), () -> yard.roll(0, 7, 1), () -> yard.store(5, 1),
+            () -> yard.rolled(1), () -> yard.at(0, 0), () -> yard.thing(0, 1), () -> yard.pointed(1, 4),
+            () -> yard.meet(0, 1, 0), () -> yard.consist(0, 3)};
+        int[] answers = {2, 1, 1, 0, 8, 9, 1, 2, 1, 0, NONE, 0, 0, 1, 1, 1, 1, 5, 0, 0, NONE, 0, NONE};
+        for (int i = 0; i < calls.length; i++) {
+            due.found("pull(7, 0, 1) ahead of call " + i, yard, yard.pull(7, 0, 1), HELD);
+            due.is("finding(1) ahead of call " + i, yard.finding(1), 9);
+            due.trace(yard, 5, 15);
+            due.is("call " + i, calls[i].getAsInt(), answers[i]);
+            due.is("finding(0) behind call " + i, yard.finding(0), 0);
+            due.is("finding(1) behind call " + i, yard.finding(1), NONE);
+            due.trace(yard);
+        }
+    }
+
     private static void count() {
         due.of("40 count");
         SwitchYard yard = kinds();
@@ -370,6 +402,12 @@ final class AskingTest {
         yard.undo();
         yard.undo();
         due.is("count(2), ever", yard.count(NOT_SUCH), 3);
+        due.is("count(1)", yard.count(NOTHING), 0);
+        yard.at(9, 0);
+        due.is("count(1)", yard.count(NOTHING), 1);
+        due.is("count(17)", yard.count(17), 0);
+        due.found("leave(5)", yard, yard.leave(5), 17);
+        due.is("count(17)", yard.count(17), 1);
     }
 
     private static void trace() {
@@ -555,6 +593,16 @@ final class AskingTest {
         yard.undo();
         due.is("digest()", yard.digest(),
                 folded(26, 1, NONE, NONE, NONE, 0, 6, 4, 0, -1, 27, 1, NONE, NONE, NONE, 0, 0, 0, 0, 1, 0));
+        due.of("44 digest of couplings");
+        SwitchYard three = new SwitchYard();
+        three.track(3);
+        for (int i = 0; i < 3; i++) {
+            three.wagon(0, 0, i, 4, 20);
+        }
+        three.couple(1, 0);
+        three.couple(1, 1);
+        due.is("digest()", three.digest(), folded(0, 1, 1, NONE, NONE, 0, 0, 0, 0, 1, 1, 2, 0, NONE, 0, 0, 0, 0,
+                2, 1, NONE, 1, NONE, 0, 0, 0, 0));
         due.of("44 digest goes round");
         SwitchYard many = kinds();
         int[] numbers = new int[7 * 9];

@@ -288,6 +288,8 @@ final class MakingTest {
         due.is("count(-7)", yard.count(-7), 12);
         due.is("finding(0) is as it was", yard.finding(0), NOTHING);
         due.is("lock(11), without ENTRIES", yard.lock(11), 0);
+        due.is("route()", yard.route(), FULL);
+        due.is("count(-8), FULL forgets nothing", yard.count(-8), 1);
     }
 
     private static void via() {
@@ -452,6 +454,8 @@ final class MakingTest {
         due.is("load(0, 0, 3)", yard.load(0, 0, 3), 3);
         due.is("piece(0, 0, 0, 3)", yard.piece(0, 0, 0, 3), 1);
         due.is("hold(0, 1000)", yard.hold(0, 1000), BAD);
+        due.is("undo()", yard.undo(), 1);
+        due.is("back()", yard.back(), 1);
         due.is("roll(1, 0, 1)", yard.roll(1, 0, 1), 1);
         due.is("raise(0)", yard.raise(0), FOUND);
         due.is("count(-8)", yard.count(-8), 1);

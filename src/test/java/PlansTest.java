@@ -10,6 +10,7 @@ final class PlansTest {
         planByLeast();
         planByRule();
         planNone();
+        planNoneInTheMiddle();
         planBad();
         bound();
         proofAndSpoil();
@@ -167,6 +168,11 @@ final class PlansTest {
         due.is("plan(1)", yard.plan(1), 3);
         moves(yard, "121", "101", "211");
         yard.wipe();
+        rows(yard, false, "", "1", "2");
+        rows(yard, true, "", "2", "1");
+        due.is("plan(1), to STACK 0 and back", yard.plan(1), 3);
+        moves(yard, "101", "211", "021");
+        yard.wipe();
         yard.room(0, 10);
         yard.room(1, 10);
         rows(yard, false, "0123456789");
@@ -194,9 +200,39 @@ final class PlansTest {
         due.is("room(3, 1)", yard.room(3, 1), 2);
         due.is("plan(1) without ROOM", yard.plan(1), NONE);
         moves(yard);
+        yard.room(3, 2);
+        due.is("plan(1) with ROOM", yard.plan(1), 3);
+        due.is("room(3, 1)", yard.room(3, 1), 2);
+        due.is("plan(0) without ROOM", yard.plan(0), NONE);
+        moves(yard);
         due.is("proof(0) behind NONE", yard.proof(0), NONE);
         due.is("spoil(0, 1) behind NONE", yard.spoil(0, 1), NONE);
         due.is("check() behind NONE", yard.check(), 0);
+    }
+
+    private static void planNoneInTheMiddle() {
+        due.of("49 plan BY RULE, NONE in the middle");
+        SwitchYard yard = new SwitchYard();
+        int[] rooms = {2, 1, 1, 1};
+        for (int stack = 0; stack < 4; stack++) {
+            yard.room(stack, rooms[stack]);
+        }
+        rows(yard, false, "12", "", "3", "4");
+        rows(yard, true, "21", "", "3", "4");
+        due.is("plan(1), s can't be cleared", yard.plan(1), NONE);
+        moves(yard);
+        due.is("check()", yard.check(), 0);
+        yard.wipe();
+        yard.room(1, 2);
+        rows(yard, false, "", "12", "3", "4");
+        rows(yard, true, "1", "2", "3", "4");
+        due.is("plan(1), neither s nor t may be used", yard.plan(1), NONE);
+        moves(yard);
+        due.is("plan(0), both go at once", yard.plan(0), 2);
+        moves(yard, "102", "011");
+        yard.room(2, 2);
+        due.is("plan(1)", yard.plan(1), 3);
+        moves(yard, "121", "101", "211");
     }
 
     private static void planBad() {
@@ -230,6 +266,10 @@ final class PlansTest {
         due.of("51 bound");
         SwitchYard yard = new SwitchYard();
         due.is("bound() of nothing", yard.bound(), 0);
+        rows(yard, false, "0", "1");
+        rows(yard, true, "10");
+        due.is("bound(), 0 stands on 1, 1 on another ground", yard.bound(), 2);
+        yard.wipe();
         rows(yard, false, "123", "4");
         due.is("bound(), GOAL is empty", yard.bound(), BAD);
         rows(yard, true, "143");
@@ -327,6 +367,18 @@ final class PlansTest {
         rows(yard, false, "", "", "8");
         rows(yard, true, "", "", "8");
         due.is("check(), a MOVE has no ROOM", yard.check(), 0);
+        for (int stack : new int[] {0, 3}) {
+            SwitchYard other = new SwitchYard();
+            rows(other, false, "", "1");
+            rows(other, true, "", "", "1");
+            due.is("plan(1)", other.plan(1), 1);
+            due.is("check()", other.check(), 1);
+            for (int i = 0; i < 3; i++) {
+                other.lay(false, stack, 7 + i);
+                other.lay(true, stack, i == 0 ? 7 : 10 - i);
+            }
+            due.is("check(), 8 and 9 stand otherwise", other.check(), 0);
+        }
     }
 
     private static void nothingOfTheseIsState() {
