@@ -245,6 +245,18 @@ final class ActsTest {
         due.is("free(4)", yard.free(4), 2);
         due.is("lock(3)", yard.lock(3), 2);
         due.is("pointed(1, 3)", yard.pointed(1, 3), 1);
+        due.is("free(3)", yard.free(3), 2);
+        due.is("turn(0, 1)", yard.turn(0, 1), 0);
+        yard.route();
+        yard.via(5, 3, 1, 8);
+        yard.via(5, 1, 0, 7);
+        yard.via(5, 0, 0, 6);
+        yard.via(5, 2, 1, 9);
+        due.found("lock(5)", yard, yard.lock(5), BEYOND);
+        due.is("pointed(0, 3), SET as it was", yard.pointed(0, 3), 1);
+        due.is("pointed(1, 3), SET as it was", yard.pointed(1, 3), 1);
+        due.is("turn(0, 0)", yard.turn(0, 0), 1);
+        due.is("lock(3)", yard.lock(3), 2);
         due.found("lock(2), a POINT of 3 is locked", yard, yard.lock(2), LOCKED);
         due.is("finding(3)", yard.finding(3), 3);
         due.is("pointed(1, 4), 3 has it still", yard.pointed(1, 4), 3);
@@ -367,8 +379,10 @@ final class ActsTest {
         due.trace(yard, 17, 19, 17);
         due.is("part(4, 0)", yard.part(4, 0), 5);
         yard.danger(5, 2);
-        due.found("1 and 2", yard, yard.couple(5, 1), BARRED);
-        due.found("2 and 1", yard, yard.couple(4, 0), BARRED);
+        due.found("2 and 1", yard, yard.couple(5, 1), BARRED);
+        due.trace(yard, 17);
+        due.found("1 and 2", yard, yard.couple(4, 0), BARRED);
+        due.trace(yard, 19, 17);
         due.is("count(13)", yard.count(BARRED), 7);
     }
 

@@ -354,6 +354,10 @@ final class AskingTest {
             () -> yard.rolled(1), () -> yard.at(0, 0), () -> yard.thing(0, 1), () -> yard.pointed(1, 4),
             () -> yard.meet(0, 1, 0), () -> yard.consist(0, 3)};
         int[] answers = {2, 1, 1, 0, 8, 9, 1, 2, 1, 0, NONE, 0, 0, 1, 1, 1, 1, 5, 0, 0, NONE, 0, NONE};
+        due.found("pull(7, 0, 1)", yard, yard.pull(7, 0, 1), HELD);
+        due.found("raise(0)", yard, yard.raise(0), 7);
+        due.is("finding(1) behind raise(0)", yard.finding(1), NONE);
+        due.trace(yard);
         for (int i = 0; i < calls.length; i++) {
             due.found("pull(7, 0, 1) ahead of call " + i, yard, yard.pull(7, 0, 1), HELD);
             due.is("finding(1) ahead of call " + i, yard.finding(1), 9);

@@ -144,6 +144,10 @@ final class MakingTest {
         due.found("link(0, 1, 3, 0), a fourth", yard, yard.link(0, 1, 3, 0), TAKEN);
         due.found("link(3, 0, 0, 1), a fourth", yard, yard.link(3, 0, 0, 1), TAKEN);
         due.is("link(3, 0, 3, 1), a ring", yard.link(3, 0, 3, 1), 1);
+        due.is("point(4, 0)", yard.point(4, 0), 1);
+        due.is("point(5, 0)", yard.point(5, 0), 2);
+        due.is("link(4, 0, 5, 0)", yard.link(4, 0, 5, 0), 1);
+        due.found("link(5, 0, 4, 0), joined, with POINTS", yard, yard.link(5, 0, 4, 0), TAKEN);
         due.of("4 link, LINKS in order as they came");
         due.is("wagon", yard.wagon(0, 2, 0, 4, 20), 0);
         due.is("engine", yard.engine(false, 0, 2, 50), 1);
@@ -354,6 +358,8 @@ final class MakingTest {
         due.is("ask(0, 0)", yard.ask(0, 0), 130);
         due.is("load(0, 1, 20), anew", yard.load(0, 1, 20), 20);
         due.is("ask(0, 0), all 0", yard.ask(0, 0), 10);
+        due.is("piece(0, 19, 1, 7)", yard.piece(0, 19, 1, 7), 1);
+        due.is("ask(0, 0)", yard.ask(0, 0), 17);
         due.is("load(0, 0, 0)", yard.load(0, 0, 0), 0);
         due.is("ask(0, 6), a row of none", yard.ask(0, 6), 0);
         due.found("a SIZE leaves the LOAD", yard, yard.load(1, 0, -1), SIZE);

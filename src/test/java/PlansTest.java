@@ -107,6 +107,11 @@ final class PlansTest {
     private static void planByLeast() {
         due.of("49 plan by LEAST");
         SwitchYard yard = new SwitchYard();
+        rows(yard, false, "", "", "", "1");
+        rows(yard, true, "1");
+        due.is("plan(0) of one", yard.plan(0), 1);
+        moves(yard, "301");
+        yard.wipe();
         rows(yard, false, "12");
         rows(yard, true, "", "12");
         due.is("plan(0), two at once", yard.plan(0), 1);
