@@ -300,12 +300,10 @@ final class ActsEdgesTest {
 
     private static void pullWeak() {
         // 80 + 5 and the TARE, against 20 times 5.
-        script.sentence("23", "WEAK: the sum of WEIGHT .. is above 20 times the sum of PULLS (not where it is the same)",
-                """
+        script.sentence("23", "WEAK: the sum of WEIGHT .. is above 20 times the sum of PULLS (the same is not)", """
                 track(9); engine(false, 0, 1, 5); wagon(0, 0, 2, 4, 15); couple(0, 0); pull(0, 0, 1) = 1
                 anew; track(9); engine(false, 0, 1, 5); wagon(0, 0, 2, 4, 16); couple(0, 0); remember
-                pull(0, 0, 1) = WEAK
-                trace = 1 5 15
+                pull(0, 0, 1) = WEAK; trace = 1 5 15
                 finding(2) = 0; unchanged
                 """);
         script.sentence("23", "WEAK comes ahead of a STEP's", "track(1); engine(false, 0, 0, 0); pull(0, 0, 1) = WEAK");
@@ -418,6 +416,20 @@ final class ActsEdgesTest {
                 kick(1, 0)
                 kick(2, 0); step(1) = 2; thing(0, 9) = 1; thing(1, 2) = 4; step(1) = 0; thing(0, 2) = 3; thing(1, 2) = 5
                 kick(1, 0); kick(0, 0); step(1) = 2; thing(1, 2) = 6; thing(0, 2) = 4
+                """);
+        // 0 stops first, so that 1 to 4 come up: each goes ahead of the one behind it, so none is in another's way.
+        script.sentence("25", "in the order in which they began (where one of them stopped)", """
+                track(9); table(1, 9); wagon(0, 0, 0, 4, 20); 4 x wagon(0, 0, i+2, 4, 20); kick(0, 1); kick(4, 0)
+                kick(3, 0)
+                kick(2, 0); kick(1, 0); step(1) = 4; thing(0, 9) = 0; thing(4, 2) = 6; thing(3, 2) = 5; thing(2, 2) = 4
+                thing(1, 2) = 3; step(1) = 4; thing(4, 2) = 7; thing(3, 2) = 6; thing(2, 2) = 5; thing(1, 2) = 4
+                thing(1, 9) = 7
+                """);
+        script.sentence("25", "in the order in which they began (where one in the middle stopped)", """
+                track(9); track(1); table(1, 9); wagon(0, 0, 3, 4, 20); wagon(0, 0, 4, 4, 20); wagon(0, 1, 0, 4, 20)
+                kick(1, 0)
+                kick(2, 0); kick(0, 0); step(1) = 2; thing(1, 2) = 5; thing(0, 2) = 4; thing(2, 9) = 0; step(1) = 2
+                thing(1, 2) = 6; thing(0, 2) = 5; thing(0, 9) = 7
                 """);
         script.sentence("25", "else it goes there (LOOKS as a LEAD)", """
                 track(2); track(2); link(0, 1, 1, 1); link(1, 0, 0, 0); table(1, 9); wagon(0, 0, 1, 4, 20); kick(0, 0)

@@ -355,6 +355,11 @@ final class AskingEdgesTest {
                 track(1); point(0, 0); digest() = 6723; link(0, 0, 0, 1); route(); via(0, 0, 0, 0); lock(0)
                 digest() = 6727
                 """);
+        // 31 * (31 * 7 + 1) - 4, then 31 * (31 * 7 + 1) + 3.
+        script.sentence("44", "then for each POINT SET and its ROUTE (others than 0)", """
+                track(1); track(1); point(0, 0); link(0, 0, 0, 1); link(0, 0, 1, 0); 4 x route(); via(3, 0, 1, 0)
+                turn(0, 1); digest() = 6754; lock(3) = 1; digest() = 6761
+                """);
         script.sentence("44", "going round", """
                 track(1); wagon(0, 0, 0, 4, 20); digest() = WANT
                 """.replace("WANT", Long.toString(folded(0, 1, -4, -4, -4, 0, 0, 0, 0))));
@@ -399,6 +404,20 @@ final class AskingEdgesTest {
                 hold(0, 7); raise(0) = HELD; hold(0, 1000) = BAD; store(0, 0) = STORE; load(0, 0, 1); step(0) = BAD
                 at(0, 0)
                 log(0, 0) = 1; log(1, 0) = NONE; step(1); log(0, 0) = 10; log(1, 0) = 1
+                """);
+        script.sentence("45", "its number in the list of 3 (danger() 0, .. leave() 12; what = 0), its answer (1)", """
+                track(4); track(2); wagon(0, 0, 0, 4, 20); engine(false, 0, 1, 50); exit(0, 1, true); point(0, 0)
+                link(0, 0, 1, 0); link(0, 0, 1, 1); route(); via(0, 0, 0, 0)
+                danger(0, 3) = 0; hold(0, 4) = NONE; jam(0, 5) = 0; turn(0, 0) = 0; lock(0) = 1; free(0) = 1
+                couple(0, 0) = 1; part(0, 0) = 1; pull(1, 0, 2) = 2; kick(0, 0) = 0; step(1) = 0; test(1) = 1
+                leave(1) = 1
+                log(12, 0) = 0; log(11, 0) = 1; log(10, 0) = 2; log(9, 0) = 3; log(8, 0) = 4; log(7, 0) = 5
+                log(6, 0) = 6
+                log(5, 0) = 7; log(4, 0) = 8; log(3, 0) = 9; log(2, 0) = 10; log(1, 0) = 11; log(0, 0) = 12
+                log(12, 1) = 0; log(11, 1) = NONE; log(10, 1) = 0; log(9, 1) = 0; log(8, 1) = 1; log(7, 1) = 1
+                log(6, 1) = 1
+                log(5, 1) = 1; log(4, 1) = 2; log(3, 1) = 0; log(2, 1) = 0; log(1, 1) = 1; log(0, 1) = 1
+                log(13, 0) = NONE; log(13, 1) = NONE
                 """);
         script.sentence("45", "its answer (also FOUND)", yard + """
                 hold(9, 1) = NOTHING; log(0, 0) = 1; log(0, 1) = FOUND

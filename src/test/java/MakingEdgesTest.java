@@ -54,7 +54,7 @@ final class MakingEdgesTest {
         script.sentence("3", "An END gets a POINT: its number", "track(2); point(0, 1) = 0; point(0, 0) = 1");
         script.sentence("3", "FOUND: .. TAKEN: it has one", """
                 track(2); track(2); point(0, 1) = 0; remember; point(0, 1) = TAKEN; unchanged; point(0, 0) = 1
-                point(1, 1) = 2
+                point(1, 1) = 2; point(1, 1) = TAKEN; point(1, 0) = 3; point(1, 0) = TAKEN; point(0, 0) = TAKEN
                 """);
         script.sentence("3", "FULL (ahead of the TRACK and of TAKEN)", """
                 20 x track(1); track(1); 40 x point(i/2, i%2); point(20, 0) = FULL; point(0, 0) = FULL

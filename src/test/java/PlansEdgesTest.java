@@ -140,6 +140,10 @@ final class PlansEdgesTest {
                 move(2, 1) = 1
                 move(3, 0) = 3; move(3, 1) = 0; move(4, 0) = 1; move(4, 1) = 0
                 """);
+        script.sentence("Terms 4", "to the STACK, another one (one that is worked already)", """
+                lay(false, 1, 0); lay(false, 2, 1); lay(true, 1, 1); lay(true, 2, 0); plan(1) = 3; move(0, 0) = 1
+                move(0, 1) = 0; move(1, 0) = 2; move(1, 1) = 1; move(2, 0) = 0; move(2, 1) = 2; check() = 1
+                """);
         script.sentence("Terms 4", "that goes to the STACK, neither s nor t, with the most ROOM left (likewise)", """
                 3 x lay(false, 1, i); lay(true, 0, 0); lay(true, 1, 1); lay(true, 1, 2); plan(1) = 5
                 move(0, 0) = 1; move(0, 1) = 2; move(1, 0) = 1; move(1, 1) = 3; move(2, 0) = 1; move(2, 1) = 0
@@ -166,6 +170,10 @@ final class PlansEdgesTest {
                 room(3, 2); check() = 0
                 plan(1) = 3; check() = 1; room(3, 1); plan(1) = NONE; move(0, 0) = NONE; check() = 0; plan(0) = NONE
                 room(3, 2); plan(0) = 3
+                """);
+        script.sentence("49", "NONE: there is none (found behind some MOVES)", """
+                room(0, 3); room(1, 1); room(2, 1); room(3, 1); 3 x lay(false, 0, i); lay(false, 3, 9); lay(true, 0, 2)
+                lay(true, 0, 1); lay(true, 0, 0); lay(true, 3, 9); plan(1) = NONE; move(0, 0) = NONE; check() = 0
                 """);
         script.sentence("Terms 4", "Where no STACK has ROOM .. there is no PLAN (but LEAST has one)", """
                 room(0, 1); room(1, 2); room(2, 1); room(3, 1); lay(false, 0, 9); lay(false, 1, 1); lay(false, 2, 3)
@@ -215,7 +223,9 @@ final class PlansEdgesTest {
                 lay(false, 0, 0); lay(false, 0, 1); lay(true, 1, 0); lay(true, 1, 1); bound() = 1; wipe()
                 lay(false, 0, 0); lay(false, 1, 1); lay(true, 0, 0); lay(true, 0, 1); bound() = 1; wipe()
                 lay(false, 0, 0); lay(false, 1, 1); lay(true, 1, 0); lay(true, 0, 1); bound() = 2; wipe()
-                3 x lay(false, 2, i); 3 x lay(true, 2, i); bound() = 0
+                3 x lay(false, 2, i); 3 x lay(true, 2, i); bound() = 0; wipe()
+                lay(false, 1, 0); lay(false, 0, 9); lay(true, 0, 9); lay(true, 0, 0); bound() = 1; wipe()
+                lay(false, 3, 0); lay(false, 0, 7); lay(true, 0, 7); lay(true, 0, 0); bound() = 1
                 """);
         script.sentence("51", "BOUND (all ten)", ROOMY + """
                 10 x lay(false, 0, i); 10 x lay(true, 3, i); bound() = 1; wipe(); 10 x lay(false, 0, i); lay(true, 0, 9)
@@ -296,6 +306,10 @@ final class PlansEdgesTest {
         script.sentence("54", "(each MOVE may be done) BY RULE", plan + """
                 room(1, 1); check() = 1; lay(false, 1, 7); check() = 0; lay(true, 1, 7); check() = 0; room(1, 2)
                 check() = 1
+                """);
+        script.sentence("54", "worked from START, comes to GOAL (the lowest stand otherwise)", """
+                plan(1) = 0; lay(false, 0, 0); lay(false, 1, 1); lay(true, 0, 1); lay(true, 1, 0); check() = 0; wipe()
+                plan(1) = 0; lay(false, 3, 0); lay(true, 2, 0); check() = 0
                 """);
         script.sentence("54", "worked from START, comes to GOAL", plan + """
                 lay(false, 0, 9); lay(true, 0, 9); check() = 0

@@ -365,6 +365,7 @@ final class TermsEdgesTest {
                 track(4); wagon(0, 0, 0, 4, 20); wagon(0, 0, 1, 4, 19); wagon(4, 0, 2, 8, 7)
                 ask(0, 3) = 5; trace = 14 1
                 ask(1, 3) = 4; ask(2, 3) = 0; trace = 14 4
+                wagon(0, 0, 3, 1, 20); ask(3, 3) = 20
                 """);
         script.sentence("Terms 2", "PER AXLE: .. ZERO, behind WEIGHT", """
                 track(5); 5 x wagon(i, 0, i, 0, 10)
@@ -402,8 +403,7 @@ final class TermsEdgesTest {
     }
 
     private static void suits() {
-        script.sentence("Terms 2", "SUITS ..: [17] if both are WAGONS, whether their DANGERS are not BARRED; else it does",
-                """
+        script.sentence("Terms 2", "SUITS ..: [17] if both are WAGONS, whether their DANGERS are not BARRED; else", """
                 track(4); wagon(0, 0, 0, 4, 20); wagon(1, 0, 1, 4, 20); engine(false, 0, 2, 20); wagon(3, 0, 3, 4, 20)
                 bar(0, 0, true); couple(0, 0) = BARRED; trace = 17
                 couple(1, 0) = 2; trace = 17 18
@@ -441,7 +441,7 @@ final class TermsEdgesTest {
                 track(3); track(2); link(0, 1, 1, 1); 3 x wagon(0, 0, i, 4, 20); wagon(0, 1, 1, 4, 20)
                 engine(false, 1, 0, 50); couple(0, 0); couple(1, 0); couple(2, 0) = 3; couple(3, 1) = 4
                 """;
-        script.sentence("Terms 2", "Its ORDER, as seen from one of them: the first is the last one met by .. its SIDE 0",
+        script.sentence("Terms 2", "Its ORDER ..: the first is the last one met by going from it by its SIDE 0",
                 line + """
                 5 x consist(0, i); consist(0, 0) = 4; consist(0, 4) = 0; consist(2, 1) = 3; consist(2, 5) = NONE
                 consist(3, 0) = 0; consist(3, 4) = 4; consist(4, 0) = 0; consist(4, 3) = 3
@@ -531,7 +531,11 @@ final class TermsEdgesTest {
                 3 x track(2); point(0, 0); point(1, 0); point(2, 0); link(0, 0, 0, 1); link(1, 0, 1, 1)
                 link(0, 0, 1, 0)
                 wagon(0, 0, 0, 4, 20); route(); route(); route()
-                via(0, 2, 0, 3); via(0, 0, 1, 3); lock(0) = UNDER
+                via(0, 2, 0, 3); via(0, 0, 1, 3); lock(0) = UNDER; route(); via(3, 0, 1, 3); via(3, 2, 0, 3)
+                lock(3) = UNDER
+                route(); via(4, 0, 1, 7); via(4, 2, 0, 5); via(4, 1, 0, 3); lock(4) = BEYOND
+                route(); via(5, 2, 0, 7); via(5, 0, 1, 6); via(5, 1, 0, 7); lock(5) = UNDER
+                route(); via(6, 1, 0, 0); via(6, 2, 0, 9); via(6, 0, 1, 8); lock(6) = UNDER
                 via(1, 2, 0, 2); via(1, 0, 1, 3); lock(1) = BEYOND
                 via(2, 0, 1, 0); via(2, 2, 0, 99); lock(2) = UNDER
                 """);
