@@ -14,6 +14,7 @@ import java.util.Map;
  * same; {@code anew} a new object.
  */
 final class Script {
+    private static final int MOST_CALLS = 512;
     private static final List<String> FINDINGS = List.of("", "NOTHING", "NOT_SUCH", "BEYOND", "STORE", "SIZE", "ZERO",
             "NONE_HELD", "HELD", "TAKEN", "CLOSED", "LOCKED", "UNDER", "BARRED", "COUPLED", "WEAK", "RUNS", "UNTESTED");
     private static final Map<String, Integer> NUMBERS = Map.of("BAD", SwitchYard.BAD, "FOUND", SwitchYard.FOUND,
@@ -31,22 +32,29 @@ final class Script {
     private final Due due = new Due();
     private SwitchYard yard = new SwitchYard();
     private String remembered = "";
+    private int calls = 0;
 
     /** What a sentence of the document says, by calls on a new object. */
-    void sentence(String promise, String words, String calls) {
+    void sentence(String promise, String words, String lines) {
         due.of(promise + " \"" + words + "\"");
-        yard = new SwitchYard();
-        for (String line : calls.split("[;\n]")) {
+        renew();
+        for (String line : lines.split("[;\n]")) {
             if (!line.isBlank()) {
                 work(line.strip());
             }
         }
+        due.is("more calls than the document promises answers for", calls > MOST_CALLS ? calls : 0, 0);
+    }
+
+    private void renew() {
+        yard = new SwitchYard();
+        calls = 0;
     }
 
     /** The same calls once for each value of the letter that stands for it. */
-    void each(String promise, String words, String calls, String letter, String... values) {
+    void each(String promise, String words, String lines, String letter, String... values) {
         for (String value : values) {
-            sentence(promise, words, calls.replaceAll("\\b" + letter + "\\b", value));
+            sentence(promise, words, lines.replaceAll("\\b" + letter + "\\b", value));
         }
     }
 
@@ -56,7 +64,7 @@ final class Script {
 
     private void work(String line) {
         if (line.equals("anew")) {
-            yard = new SwitchYard();
+            renew();
         } else if (line.equals("remember")) {
             remembered = all();
         } else if (line.equals("unchanged")) {
@@ -104,6 +112,7 @@ final class Script {
             boolean isFlag = method.getParameterTypes()[k] == boolean.class;
             arguments[k] = isFlag ? (Object) Boolean.valueOf(texts[k]) : (Object) (int) number(texts[k], i);
         }
+        calls++;
         try {
             return ((Number) method.invoke(yard, arguments)).longValue();
         } catch (IllegalAccessException | InvocationTargetException e) {
@@ -127,24 +136,17 @@ final class Script {
         StringBuilder all = new StringBuilder();
         all.append(yard.digest());
         for (int k = -7; k <= 0; k++) {
-            all.append(' ').append(yard.count(k));
+            all.append(' ').append(answer("count(" + k + ")", 0));
         }
         for (int thing = 0; thing < yard.count(-1); thing++) {
-            all.append('\n');
-            for (int what = 0; what <= 10; what++) {
-                all.append(' ').append(yard.thing(thing, what));
-            }
-            all.append(' ').append(yard.ask(thing, 0)).append(' ').append(yard.ask(thing, 5))
-                    .append(' ').append(yard.ask(thing, 6));
+            all.append(' ').append(answer("thing(" + thing + ", 6)", 0));
+            all.append(' ').append(answer("ask(" + thing + ", 0)", 0));
         }
         for (int point = 0; point < yard.count(-6); point++) {
-            all.append('\n');
-            for (int what = 0; what <= 4; what++) {
-                all.append(' ').append(yard.pointed(point, what));
-            }
+            all.append(' ').append(answer("pointed(" + point + ", 2)", 0));
         }
         for (int i = 0; i < 8; i++) {
-            all.append(' ').append(yard.rolled(i));
+            all.append(' ').append(answer("rolled(" + i + ")", 0));
         }
         return all.toString();
     }
