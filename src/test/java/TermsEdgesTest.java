@@ -536,6 +536,7 @@ final class TermsEdgesTest {
                 route(); via(4, 0, 1, 7); via(4, 2, 0, 5); via(4, 1, 0, 3); lock(4) = BEYOND
                 route(); via(5, 2, 0, 7); via(5, 0, 1, 6); via(5, 1, 0, 7); lock(5) = UNDER
                 route(); via(6, 1, 0, 0); via(6, 2, 0, 9); via(6, 0, 1, 8); lock(6) = UNDER
+                route(); via(7, 0, 1, 5); via(7, 1, 0, 3); via(7, 2, 0, 4); lock(7) = BEYOND
                 via(1, 2, 0, 2); via(1, 0, 1, 3); lock(1) = BEYOND
                 via(2, 0, 1, 0); via(2, 2, 0, 99); lock(2) = UNDER
                 """);
