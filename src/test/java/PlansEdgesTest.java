@@ -278,6 +278,11 @@ final class PlansEdgesTest {
         script.each("54", "or one lower by more than 1", plan + """
                 spoil(1, V) = 2; check() = 0; spoil(1, 2) = V; check() = 1; spoil(2, V) = 1; check() = 0
                 """, "V", "0", "3", "4", "99");
+        script.sentence("54", "or one lower by more than 1 (from where all stand on the last STACK)", """
+                room(1, 1); room(2, 1); 2 x lay(false, 0, i); lay(true, 0, 1); lay(true, 0, 0); plan(0) = 3; move(0, 1) = 3
+                move(1, 1) = 3; check() = 1; spoil(2, 2) = 1; check() = 0; spoil(2, 0) = 2; check() = 0; spoil(2, 1) = 0
+                check() = 1
+                """);
         script.sentence("54", "leads to one that has none (ROOM grew)", """
                 room(3, 1); 2 x lay(false, 0, i); lay(true, 0, 1); lay(true, 0, 0); plan(0) = 3; check() = 1; room(3, 2)
                 check() = 0; room(3, 1)
